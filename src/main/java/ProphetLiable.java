@@ -1,3 +1,5 @@
+import java.util.Arrays;
+
 /**
  * A market in which whoever foretells is liable: FACTS that come about by odds, PROPHETS with
  * purses and fame, PROPHECIES, the TEXTS that rule them, and questions about all of these.
@@ -29,6 +31,8 @@ public final class ProphetLiable {
     private static final int YEARS_MOST = 40;
     private static final int NUMBER_MOST = 9999;
     private static final int VALUE_MOST = 1000000;
+    // 3 to the 8th: each FACT is undecided, SO or not.
+    private static final int POSITIONS = 6561;
 
     // Columns of a FACT.
     private static final int TOLD_ODDS = 0;
@@ -131,22 +135,24 @@ public final class ProphetLiable {
 
     private static final int[] NO_LAW = {};
 
-    private final Market all;
+    private final Market market;
     private final Market kept;
     private final World scratch;
     private final Reader reader;
     private final Reckoner reckoner;
+    private final Contest contest;
     private final int[] tape;
     private int tapeLength;
     private int latestFault;
     private int latestPlace;
 
     public ProphetLiable() {
-        all = new Market();
+        market = new Market();
         kept = new Market();
         scratch = new World();
         reader = new Reader();
         reckoner = new Reckoner();
+        contest = new Contest();
         tape = new int[TAPE_MOST];
         tapeLength = 0;
         latestFault = NONE;
@@ -159,9 +165,9 @@ public final class ProphetLiable {
         if (!within(odds, 0, ODDS_MOST) || !within(cost, 0, COST_MOST)) {
             return NONE;
         }
-        int number = all.facts.grow();
-        all.facts.set(number, TOLD_ODDS, odds);
-        all.facts.set(number, TOLD_COST, cost);
+        int number = market.facts.grow();
+        market.facts.set(number, TOLD_ODDS, odds);
+        market.facts.set(number, TOLD_COST, cost);
         return number;
     }
 
@@ -169,9 +175,9 @@ public final class ProphetLiable {
         if (!within(purse, 0, PURSE_MOST) || !within(fame, 0, FAME_MOST)) {
             return NONE;
         }
-        int number = all.now.prophets.grow();
-        all.now.prophets.set(number, PURSE_COLUMN, purse);
-        all.now.prophets.set(number, FAME_COLUMN, fame);
+        int number = market.now.prophets.grow();
+        market.now.prophets.set(number, PURSE_COLUMN, purse);
+        market.now.prophets.set(number, FAME_COLUMN, fame);
         return number;
     }
 
@@ -207,14 +213,14 @@ public final class ProphetLiable {
     }
 
     public int text() {
-        if (all.textCount >= TEXTS_MOST) {
+        if (market.textCount >= TEXTS_MOST) {
             return NONE;
         }
         Text read = reader.read(tape, tapeLength);
         tapeLength = 0;
         latestFault = reader.wrong;
-        latestPlace = reader.wrong == 0 ? NONE : reader.place;
-        return read == null ? NONE : all.addText(read);
+        latestPlace = reader.wrong == 0 ? NONE : reader.place();
+        return read == null ? NONE : market.addText(read);
     }
 
     public int fault(int what) {
@@ -225,10 +231,10 @@ public final class ProphetLiable {
     }
 
     public boolean by(int text) {
-        if (!within(text, NONE, all.textCount - 1)) {
+        if (!within(text, NONE, market.textCount - 1)) {
             return false;
         }
-        all.rule = text;
+        market.rule = text;
         return true;
     }
 
@@ -238,17 +244,17 @@ public final class ProphetLiable {
         if (!mayForetell(prophet, facts, days, fee)) {
             return NONE;
         }
-        this.all.remember();
+        market.remember();
         return doForetell(prophet, all, facts, days, fee);
     }
 
     private boolean mayForetell(int prophet, int facts, int days, int fee) {
         return mayHold(prophet) && someFacts(facts) && within(days, 1, DUE_IN_MOST)
-            && within(fee, 0, FEE_MOST) && all.now.prophecies.count < PROPHECIES_MOST;
+            && within(fee, 0, FEE_MOST) && market.now.prophecies.count < PROPHECIES_MOST;
     }
 
     private int doForetell(int prophet, boolean every, int facts, int days, int fee) {
-        World now = all.now;
+        World now = market.now;
         Rows prophecies = now.prophecies;
         int number = prophecies.grow();
         prophecies.set(number, WHOSE_COLUMN, prophet);
@@ -262,7 +268,7 @@ public final class ProphetLiable {
 
     /** Whether there is such a PROPHET and PROPHECIES may still become its. */
     private boolean mayHold(int prophet) {
-        Rows prophets = all.now.prophets;
+        Rows prophets = market.now.prophets;
         return prophets.has(prophet) && prophets.get(prophet, RUINED_COLUMN) == 0;
     }
 
@@ -270,7 +276,7 @@ public final class ProphetLiable {
         if (!mayTurn(prophet, fact, false)) {
             return false;
         }
-        all.remember();
+        market.remember();
         doTurn(prophet, fact);
         return true;
     }
@@ -279,32 +285,32 @@ public final class ProphetLiable {
         if (!mayTurn(prophet, fact, true)) {
             return false;
         }
-        all.remember();
+        market.remember();
         doTurn(prophet, fact);
         return true;
     }
 
     /** Whether a PROPHET can pay for turning a FACT that is SO (or isn't) into the contrary. */
     private boolean mayTurn(int prophet, int fact, boolean so) {
-        World now = all.now;
-        return now.prophets.has(prophet) && all.facts.has(fact) && now.isSo(fact) == so
-            && now.prophets.get(prophet, PURSE_COLUMN) >= all.facts.get(fact, TOLD_COST);
+        World now = market.now;
+        return now.prophets.has(prophet) && market.facts.has(fact) && now.isSo(fact) == so
+            && now.prophets.get(prophet, PURSE_COLUMN) >= market.facts.get(fact, TOLD_COST);
     }
 
     private void doTurn(int prophet, int fact) {
-        World now = all.now;
-        now.lose(prophet, all.facts.get(fact, TOLD_COST));
+        World now = market.now;
+        now.lose(prophet, market.facts.get(fact, TOLD_COST));
         now.so ^= bit(fact);
     }
 
     public boolean sell(int prophecy, int to, int price) {
-        World now = all.now;
+        World now = market.now;
         int from = now.prophecies.get(prophecy, WHOSE_COLUMN);
         if (!now.isOpen(prophecy) || !mayHold(to) || from == to || !within(price, 0, FEE_MOST)
             || now.prophets.get(from, PURSE_COLUMN) < price) {
             return false;
         }
-        all.remember();
+        market.remember();
         now.lose(from, price);
         now.gain(to, price);
         now.prophecies.set(prophecy, WHOSE_COLUMN, to);
@@ -313,19 +319,19 @@ public final class ProphetLiable {
     }
 
     public int day(int n) {
-        if (!within(n, 1, DAYS_MOST) || all.now.today + n > DAY_MOST) {
+        if (!within(n, 1, DAYS_MOST) || market.now.today + n > DAY_MOST) {
             return NONE;
         }
         int ended = 0;
         for (int i = 0; i < n; i++) {
-            all.remember();
-            ended += passDay(all.now);
+            market.remember();
+            ended += passDay(market.now);
         }
         return ended;
     }
 
     private int passDay(World world) {
-        for (int i = 0; i < all.facts.count; i++) {
+        for (int i = 0; i < market.facts.count; i++) {
             if (!world.isSo(i) && world.draw() % 10 < comesNow(world, i)) {
                 world.so |= bit(i);
             }
@@ -342,53 +348,44 @@ public final class ProphetLiable {
 
     /** Ends an open PROPHECY, if it is SO or due: whether it did. */
     private boolean settle(World world, int prophecy) {
-        if (world.holds(prophecy)) {
-            comeTrue(world, prophecy);
-            return true;
-        }
-        if (world.today < world.prophecies.get(prophecy, DUE_COLUMN)) {
+        boolean holds = world.holds(prophecy);
+        if (!holds && world.today < world.prophecies.get(prophecy, DUE_COLUMN)) {
             return false;
         }
-        fail(world, prophecy);
+        if (holds) {
+            world.comeTrue(prophecy, renownNow(world, prophecy));
+        } else {
+            world.fail(prophecy, duesBy(market.ruling(), world, prophecy));
+        }
         return true;
     }
 
-    private void comeTrue(World world, int prophecy) {
-        int whose = world.prophecies.get(prophecy, WHOSE_COLUMN);
-        int renown = renownNow(world, prophecy);
-        int fame = world.prophets.get(whose, FAME_COLUMN);
-        world.prophets.set(whose, FAME_COLUMN, Math.min(FAME_MOST, fame + renown));
-        world.prophecies.set(prophecy, HOW_COLUMN, CAME_TRUE);
-        world.write(BOOK_TRUE, prophecy, renown);
-    }
-
-    private void fail(World world, int prophecy) {
-        int whose = world.prophecies.get(prophecy, WHOSE_COLUMN);
-        int dues = duesBy(all.ruling(), world, prophecy);
-        int paid = Math.min(dues, world.prophets.get(whose, PURSE_COLUMN));
-        world.lose(whose, paid);
-        if (paid < dues) {
-            world.prophets.set(whose, RUINED_COLUMN, 1);
-        }
-        world.prophecies.set(prophecy, HOW_COLUMN, FAILED);
-        world.write(BOOK_FAILED, prophecy, paid);
-    }
-
     public int played(int text) {
-        Text script = all.textAt(text);
+        Text script = market.textAt(text);
         if (script == null) {
             return OTHER;
         }
         Rows clauses = script.clauses;
         for (int i = 0; i < clauses.count; i++) {
-            if (!perform(clauses, i)) {
+            boolean done = clauses.get(i, 0) == DAY ? passDays(clauses.get(i, 1)) : perform(clauses, i);
+            if (!done) {
                 return i;
             }
         }
         return NONE;
     }
 
-    /** Does a CLAUSE as by hand: whether it could be. A law has nothing to be done. */
+    /** Passes those of n DAYS that can pass: whether all could. */
+    private boolean passDays(int n) {
+        int can = Math.min(n, DAY_MOST - market.now.today);
+        for (int i = 0; i < can; i++) {
+            market.remember();
+            passDay(market.now);
+        }
+        return can == n;
+    }
+
+    /** Does a CLAUSE other than day as by hand: whether it could be. A law is no act. */
     private boolean perform(Rows clauses, int i) {
         int a = clauses.get(i, 1);
         int b = clauses.get(i, 2);
@@ -406,44 +403,35 @@ public final class ProphetLiable {
                 return spoil(b, a);
             case SELL:
                 return sell(a, b, c);
-            case DAY:
-                return passSome(a);
             default:
                 return true;
         }
-    }
-
-    /** Passes those of n DAYS that can pass: whether all could. */
-    private boolean passSome(int n) {
-        int can = Math.min(n, DAY_MOST - all.now.today);
-        day(can);
-        return can == n;
     }
 
     public int years(int seed, int n) {
         if (!within(seed, 0, 9999) || !within(n, 1, YEARS_MOST)) {
             return NONE;
         }
-        all.remember();
-        all.now.x = seed * 2 + 191;
+        market.remember();
+        market.now.x = seed * 2 + 191;
         for (int i = 0; i < n; i++) {
-            takeTurn(all.now.draw());
+            takeTurn(market.now.draw());
         }
-        return all.now.today;
+        return market.now.today;
     }
 
     private void takeTurn(int x) {
         int kind = x % 6;
         if (kind <= 2 || kind == 3 && x % 5 == 0) {
             act(x, kind);
-        } else if (all.now.today < DAY_MOST) {
-            passDay(all.now);
+        } else if (market.now.today < DAY_MOST) {
+            passDay(market.now);
         }
     }
 
     private void act(int x, int kind) {
-        int prophets = all.now.prophets.count;
-        int facts = all.facts.count;
+        int prophets = market.now.prophets.count;
+        int facts = market.facts.count;
         if (prophets == 0 || facts == 0) {
             return;
         }
@@ -464,13 +452,13 @@ public final class ProphetLiable {
     }
 
     public int undo() {
-        return all.takeBack();
+        return market.takeBack();
     }
 
     // What is.
 
     public int of(int prophet, int what) {
-        World now = all.now;
+        World now = market.now;
         if (!now.prophets.has(prophet) || !within(what, 0, 4)) {
             return OTHER;
         }
@@ -481,31 +469,31 @@ public final class ProphetLiable {
     }
 
     private int owes(int prophet) {
-        World now = all.now;
+        World now = market.now;
         int sum = 0;
         for (int i = 0; i < now.prophecies.count; i++) {
             if (now.isOpen(i) && now.prophecies.get(i, WHOSE_COLUMN) == prophet) {
-                sum += duesBy(all.ruling(), now, i);
+                sum += duesBy(market.ruling(), now, i);
             }
         }
         return sum;
     }
 
     public int ofFact(int fact, int what) {
-        if (!all.facts.has(fact) || !within(what, 0, 3)) {
+        if (!market.facts.has(fact) || !within(what, 0, 3)) {
             return OTHER;
         }
         if (what <= TOLD_COST) {
-            return all.facts.get(fact, what);
+            return market.facts.get(fact, what);
         }
         if (what == 2) {
-            return all.now.isSo(fact) ? 1 : 0;
+            return market.now.isSo(fact) ? 1 : 0;
         }
-        return comesNow(all.now, fact);
+        return comesNow(market.now, fact);
     }
 
     public int word(int prophecy, int what) {
-        World now = all.now;
+        World now = market.now;
         if (!now.prophecies.has(prophecy) || !within(what, 0, 7)) {
             return OTHER;
         }
@@ -513,7 +501,7 @@ public final class ProphetLiable {
             return now.prophecies.get(prophecy, what);
         }
         if (what == 6) {
-            return duesBy(all.ruling(), now, prophecy);
+            return duesBy(market.ruling(), now, prophecy);
         }
         return now.holds(prophecy) ? 1 : 0;
     }
@@ -521,20 +509,20 @@ public final class ProphetLiable {
     public int is(int what) {
         switch (what) {
             case 0:
-                return all.now.today;
+                return market.now.today;
             case 1:
-                return all.now.x;
+                return market.now.x;
             case 2:
-                return all.now.so;
+                return market.now.so;
             case 3:
-                return all.now.prophecies.count;
+                return market.now.prophecies.count;
             default:
                 return OTHER;
         }
     }
 
     public int book(int i, int what) {
-        World now = all.now;
+        World now = market.now;
         if (i == NONE) {
             return now.book.count;
         }
@@ -544,8 +532,8 @@ public final class ProphetLiable {
     // The laws, as the TEXT that rules tells them.
 
     private int comesNow(World world, int fact) {
-        int[] law = lawOf(all.ruling(), COMES);
-        int odds = all.facts.get(fact, TOLD_ODDS);
+        int[] law = lawOf(market.ruling(), COMES);
+        int odds = market.facts.get(fact, TOLD_ODDS);
         if (law.length == 0) {
             return odds;
         }
@@ -553,7 +541,7 @@ public final class ProphetLiable {
         reckoner.tell(MANY, Integer.bitCount(world.so));
         reckoner.tell(FACT, fact);
         reckoner.tell(ODDS, odds);
-        reckoner.tell(COST, all.facts.get(fact, TOLD_COST));
+        reckoner.tell(COST, market.facts.get(fact, TOLD_COST));
         return clamp(reckoner.run(law, world.so), 0, ODDS_MOST);
     }
 
@@ -567,7 +555,7 @@ public final class ProphetLiable {
     }
 
     private int renownNow(World world, int prophecy) {
-        int[] law = lawOf(all.ruling(), RENOWN);
+        int[] law = lawOf(market.ruling(), RENOWN);
         if (law.length == 0) {
             return Integer.bitCount(world.prophecies.get(prophecy, FACTS_COLUMN));
         }
@@ -598,7 +586,7 @@ public final class ProphetLiable {
         if (!within(n, 1, DAYS_MOST) || !mayLookAhead(what, which)) {
             return NONE;
         }
-        scratch.copyFrom(all.now);
+        scratch.take(market.now, 0);
         for (int i = 0; i < n && scratch.today < DAY_MOST; i++) {
             passDay(scratch);
         }
@@ -610,15 +598,15 @@ public final class ProphetLiable {
     }
 
     private boolean mayLookAhead(int what, int which) {
-        return what == 0 || what == 1 && all.now.prophets.has(which)
-            || what == 2 && all.now.prophecies.has(which);
+        return what == 0 || what == 1 && market.now.prophets.has(which)
+            || what == 2 && market.now.prophecies.has(which);
     }
 
     public int until(int prophecy) {
-        if (!all.now.isOpen(prophecy)) {
+        if (!market.now.isOpen(prophecy)) {
             return NONE;
         }
-        scratch.copyFrom(all.now);
+        scratch.take(market.now, 0);
         for (int days = 1; days <= DAYS_MOST && scratch.today < DAY_MOST; days++) {
             passDay(scratch);
             if (!scratch.isOpen(prophecy)) {
@@ -644,21 +632,21 @@ public final class ProphetLiable {
     }
 
     private boolean mayReckonOdds(int facts, int days) {
-        return someFacts(facts) && within(days, 1, 4) && Integer.bitCount(facts & ~all.now.so) <= 3;
+        return someFacts(facts) && within(days, 1, 4) && Integer.bitCount(facts & ~market.now.so) <= 3;
     }
 
     /** How many draws there are of the FACTS that aren't SO, each day's of a FACT being 10. */
     private long allChances(int facts, int days) {
-        return power(10, days * Integer.bitCount(facts & ~all.now.so));
+        return power(10, days * Integer.bitCount(facts & ~market.now.so));
     }
 
     /** In how many of all draws any (or every) one of the FACTS is SO. */
     private long chances(boolean every, int facts, int days) {
         long come = 1;
         long miss = 1;
-        for (int i = 0; i < all.facts.count; i++) {
-            if ((facts & ~all.now.so & bit(i)) != 0) {
-                long missing = power(10 - all.facts.get(i, TOLD_ODDS), days);
+        for (int i = 0; i < market.facts.count; i++) {
+            if ((facts & ~market.now.so & bit(i)) != 0) {
+                long missing = power(10 - market.facts.get(i, TOLD_ODDS), days);
                 come *= power(10, days) - missing;
                 miss *= missing;
             }
@@ -666,7 +654,7 @@ public final class ProphetLiable {
         if (every) {
             return come;
         }
-        return (facts & all.now.so) != 0 ? allChances(facts, days) : allChances(facts, days) - miss;
+        return (facts & market.now.so) != 0 ? allChances(facts, days) : allChances(facts, days) - miss;
     }
 
     private static long power(int base, int exponent) {
@@ -694,36 +682,44 @@ public final class ProphetLiable {
         if (!allOpen(prophecies)) {
             return NONE;
         }
-        int best = everyFact() & ~all.now.so;
-        for (int set = 0; set <= everyFact(); set++) {
-            if ((set & all.now.so) == 0 && eachHolds(prophecies, all.now.so | set)
-                && isLesser(set, best)) {
+        int useful = factsOf(prophecies) & ~market.now.so;
+        int best = useful;
+        int bestWeight = weightOf(best);
+        for (int set = 0; set < useful; set++) {
+            if ((set & ~useful) == 0 && weightOf(set) < bestWeight
+                && eachHolds(prophecies, market.now.so | set)) {
                 best = set;
+                bestWeight = weightOf(set);
             }
         }
         return cost ? costOf(best) : best;
     }
 
-    /** Whether a set comes ahead of another one: by its COST, then its size, then as a number. */
-    private boolean isLesser(int set, int other) {
-        int more = costOf(set) - costOf(other);
-        if (more == 0) {
-            more = Integer.bitCount(set) - Integer.bitCount(other);
+    /** What sets are compared by, as one number: their COST, then how many FACTS they have. */
+    private int weightOf(int set) {
+        return costOf(set) * (FACTS_MOST + 1) + Integer.bitCount(set);
+    }
+
+    /** All FACTS that some of the PROPHECIES are about. */
+    private int factsOf(int prophecies) {
+        int set = 0;
+        for (int i = 0; i < market.now.prophecies.count; i++) {
+            set |= (prophecies & bit(i)) == 0 ? 0 : market.now.prophecies.get(i, FACTS_COLUMN);
         }
-        return more < 0 || more == 0 && set < other;
+        return set;
     }
 
     private int costOf(int set) {
         int sum = 0;
-        for (int i = 0; i < all.facts.count; i++) {
-            sum += (set & bit(i)) == 0 ? 0 : all.facts.get(i, TOLD_COST);
+        for (int i = 0; i < market.facts.count; i++) {
+            sum += (set & bit(i)) == 0 ? 0 : market.facts.get(i, TOLD_COST);
         }
         return sum;
     }
 
     private boolean eachHolds(int prophecies, int so) {
-        for (int i = 0; i < all.now.prophecies.count; i++) {
-            if ((prophecies & bit(i)) != 0 && !all.now.wouldHold(i, so)) {
+        for (int i = 0; i < market.now.prophecies.count; i++) {
+            if ((prophecies & bit(i)) != 0 && !market.now.wouldHold(i, so)) {
                 return false;
             }
         }
@@ -734,11 +730,12 @@ public final class ProphetLiable {
         if (!allOpen(prophecies)) {
             return NONE;
         }
-        int best = everyFact();
-        for (int set = 0; set <= everyFact(); set++) {
+        int useful = factsOf(prophecies);
+        int best = useful;
+        for (int set = 0; set < useful; set++) {
             // A FACT more never undoes a PROPHECY: all others being SO is the hardest to stop.
-            if (Integer.bitCount(set) < Integer.bitCount(best)
-                && noneHolds(prophecies, everyFact() & ~set)) {
+            if ((set & ~useful) == 0 && Integer.bitCount(set) < Integer.bitCount(best)
+                && noneHolds(prophecies, useful & ~set)) {
                 best = set;
             }
         }
@@ -746,8 +743,8 @@ public final class ProphetLiable {
     }
 
     private boolean noneHolds(int prophecies, int so) {
-        for (int i = 0; i < all.now.prophecies.count; i++) {
-            if ((prophecies & bit(i)) != 0 && all.now.wouldHold(i, so)) {
+        for (int i = 0; i < market.now.prophecies.count; i++) {
+            if ((prophecies & bit(i)) != 0 && market.now.wouldHold(i, so)) {
                 return false;
             }
         }
@@ -757,8 +754,8 @@ public final class ProphetLiable {
     /** Whether it is a set of at least one PROPHECY, each of which is told and open. */
     private boolean allOpen(int prophecies) {
         int open = 0;
-        for (int i = 0; i < all.now.prophecies.count; i++) {
-            open |= all.now.isOpen(i) ? bit(i) : 0;
+        for (int i = 0; i < market.now.prophecies.count; i++) {
+            open |= market.now.isOpen(i) ? bit(i) : 0;
         }
         return prophecies > 0 && (prophecies & ~open) == 0;
     }
@@ -766,7 +763,7 @@ public final class ProphetLiable {
     // WORDS on offer.
 
     public int offer(boolean all, int facts, int fee, int dues) {
-        Rows offers = this.all.offers;
+        Rows offers = market.offers;
         if (fee == NONE) {
             offers.clear();
             return 0;
@@ -788,17 +785,19 @@ public final class ProphetLiable {
             return NONE;
         }
         int best = 0;
-        for (int set = 1; set < bit(all.offers.count); set++) {
+        int bestFees = 0;
+        for (int set = 1; set < bit(market.offers.count); set++) {
             int gain = sumOf(set, OFFER_FEE);
-            if (sumOf(set, OFFER_DUES) <= most + gain && gain > sumOf(best, OFFER_FEE)) {
+            if (gain > bestFees && sumOf(set, OFFER_DUES) <= most + gain) {
                 best = set;
+                bestFees = gain;
             }
         }
-        return fees ? sumOf(best, OFFER_FEE) : best;
+        return fees ? bestFees : best;
     }
 
     public int worst(int words) {
-        if (!within(words, 0, bit(all.offers.count) - 1)) {
+        if (!within(words, 0, bit(market.offers.count) - 1)) {
             return NONE;
         }
         // In the world in which nothing is SO every WORD fails: no world is worse.
@@ -807,72 +806,31 @@ public final class ProphetLiable {
 
     private int sumOf(int words, int column) {
         int sum = 0;
-        for (int i = 0; i < all.offers.count; i++) {
-            sum += (words & bit(i)) == 0 ? 0 : all.offers.get(i, column);
+        for (int i = 0; i < market.offers.count; i++) {
+            sum += (words & bit(i)) == 0 ? 0 : market.offers.get(i, column);
         }
         return sum;
     }
 
     public int duel(boolean maker, boolean first) {
-        if (all.offers.count == 0) {
+        if (market.offers.count == 0) {
             return OTHER;
         }
-        int left = 0;
-        for (int i = 0; i < all.offers.count; i++) {
-            left |= all.offers.get(i, OFFER_FACTS);
+        contest.begin(market.offers);
+        if (first) {
+            return contest.firstFact(maker);
         }
-        if (!first) {
-            return comesAbout(left, 0, maker, FACTS_MOST) ? 1 : 0;
-        }
-        for (int i = 0; i < FACTS_MOST; i++) {
-            if ((left & bit(i)) != 0 && comesAboutBy(i, left, 0, maker, FACTS_MOST) == maker) {
-                return i;
-            }
-        }
-        return NONE;
-    }
-
-    /**
-     * Whether each WORD comes about when the FACTS in left are still to be decided and those in so
-     * are SO. Each decision costs one of turns, which ends at 0.
-     */
-    private boolean comesAbout(int left, int so, boolean makerNext, int turns) {
-        if (turns <= 0 || everyWord(so)) {
-            return everyWord(so);
-        }
-        if (!everyWord(so | left)) {
-            return false;
-        }
-        for (int i = 0; i < FACTS_MOST; i++) {
-            if ((left & bit(i)) != 0 && comesAboutBy(i, left, so, makerNext, turns) == makerNext) {
-                return makerNext;
-            }
-        }
-        return !makerNext;
-    }
-
-    private boolean comesAboutBy(int fact, int left, int so, boolean makerNext, int turns) {
-        int then = makerNext ? so | bit(fact) : so;
-        return comesAbout(left & ~bit(fact), then, !makerNext, turns - 1);
-    }
-
-    private boolean everyWord(int so) {
-        for (int i = 0; i < all.offers.count; i++) {
-            if (!met(all.offers.get(i, OFFER_ALL) == 1, all.offers.get(i, OFFER_FACTS), so)) {
-                return false;
-            }
-        }
-        return true;
+        return contest.comesAbout(contest.facts, 0, maker, FACTS_MOST) ? 1 : 0;
     }
 
     // WORLDS.
 
     public int heard(int fact, boolean so) {
         if (fact == NONE) {
-            all.heard.clear();
+            market.heard.clear();
             return 0;
         }
-        return all.facts.has(fact) ? addPair(all.heard, fact, so ? 1 : 0) : OTHER;
+        return market.facts.has(fact) ? addPair(market.heard, fact, so ? 1 : 0) : OTHER;
     }
 
     private static int addPair(Rows rows, int first, int second) {
@@ -886,90 +844,107 @@ public final class ProphetLiable {
     }
 
     public int worlds(int prophecy, int what) {
-        if (!all.now.prophecies.has(prophecy) || !within(what, 0, 1)) {
+        if (!market.now.prophecies.has(prophecy) || !within(what, 0, 1)) {
             return NONE;
         }
-        int so = countWorlds(prophecy, true, 0, 0);
-        return what == 1 ? so : so + countWorlds(prophecy, false, 0, 0);
+        if (isContradicted()) {
+            return 0;
+        }
+        int known = heardFacts(false);
+        return what == 0 ? countWorlds(known) : countSo(prophecy, known, heardFacts(true));
     }
 
-    /** Counts the WORLDS in which a PROPHECY is SO (or isn't) and the FACTS in mask are as in like. */
-    private int countWorlds(int prophecy, boolean so, int mask, int like) {
-        int count = 0;
-        for (int world = 0; world <= everyFact(); world++) {
-            if ((world & mask) == like && isHeardOf(world)
-                && all.now.wouldHold(prophecy, world) == so) {
-                count++;
+    /** The FACTS that were HEARD of; if soAlone, those HEARD to be SO. */
+    private int heardFacts(boolean soAlone) {
+        int set = 0;
+        for (int i = 0; i < market.heard.count; i++) {
+            if (!soAlone || market.heard.get(i, 1) == 1) {
+                set |= bit(market.heard.get(i, 0));
             }
         }
-        return count;
+        return set;
     }
 
-    private boolean isHeardOf(int world) {
-        for (int i = 0; i < all.heard.count; i++) {
-            int so = (world & bit(all.heard.get(i, 0))) == 0 ? 0 : 1;
-            if (so != all.heard.get(i, 1)) {
-                return false;
+    /** Whether a FACT was HEARD both to be SO and not to be, so that there is no WORLD. */
+    private boolean isContradicted() {
+        int so = heardFacts(true);
+        for (int i = 0; i < market.heard.count; i++) {
+            if (market.heard.get(i, 1) == 0 && (so & bit(market.heard.get(i, 0))) != 0) {
+                return true;
             }
         }
-        return true;
+        return false;
+    }
+
+    /** How many WORLDS there are when the known FACTS are settled. */
+    private int countWorlds(int known) {
+        return bit(Integer.bitCount(everyFact() & ~known));
+    }
+
+    /** In how many WORLDS a PROPHECY is SO, when of the known FACTS those in so are SO. */
+    private int countSo(int prophecy, int known, int so) {
+        int facts = market.now.prophecies.get(prophecy, FACTS_COLUMN);
+        // Of the FACTS that are still free and matter, all are SO, or none is, in just so many.
+        int settled = countWorlds(known | facts);
+        if (market.now.prophecies.get(prophecy, ALL_COLUMN) == 1) {
+            return (facts & known & ~so) == 0 ? settled : 0;
+        }
+        return (facts & so) != 0 ? countWorlds(known) : countWorlds(known) - settled;
     }
 
     public int tells(int prophecy) {
-        if (!all.now.prophecies.has(prophecy) || worlds(prophecy, 0) == 0) {
+        if (!market.now.prophecies.has(prophecy) || isContradicted()) {
             return NONE;
         }
-        int known = 0;
-        for (int i = 0; i < all.heard.count; i++) {
-            known |= bit(all.heard.get(i, 0));
-        }
+        int known = heardFacts(false);
+        int so = heardFacts(true);
         int best = NONE;
-        int fewest = bit(FACTS_MOST);
-        for (int i = 0; i < all.facts.count; i++) {
-            int wrong = (known & bit(i)) == 0 ? goWrong(prophecy, bit(i)) : fewest;
-            if (wrong < fewest) {
-                best = i;
-                fewest = wrong;
+        int fewest = 0;
+        for (int i = 0; i < market.facts.count; i++) {
+            if ((known & bit(i)) == 0) {
+                int wrong = countWrong(prophecy, known | bit(i), so | bit(i))
+                    + countWrong(prophecy, known | bit(i), so);
+                if (best == NONE || wrong < fewest) {
+                    best = i;
+                    fewest = wrong;
+                }
             }
         }
         return best;
     }
 
-    /** How many WORLDS go wrong, if one FACT alone is looked at. */
-    private int goWrong(int prophecy, int fact) {
-        int ifSo = Math.min(countWorlds(prophecy, true, fact, fact),
-            countWorlds(prophecy, false, fact, fact));
-        int ifNot = Math.min(countWorlds(prophecy, true, fact, 0),
-            countWorlds(prophecy, false, fact, 0));
-        return ifSo + ifNot;
+    /** Of the WORLDS in which the PROPHECY is SO and those in which it isn't, the fewer. */
+    private int countWrong(int prophecy, int known, int so) {
+        int right = countSo(prophecy, known, so);
+        return Math.min(right, countWorlds(known) - right);
     }
 
     // Whose law it was.
 
     public int owed(int prophecy, int dues) {
         if (prophecy == NONE) {
-            all.owed.clear();
+            market.owed.clear();
             return 0;
         }
-        if (!all.now.prophecies.has(prophecy) || !within(dues, 0, DUES_MOST)) {
+        if (!market.now.prophecies.has(prophecy) || !within(dues, 0, DUES_MOST)) {
             return OTHER;
         }
-        return addPair(all.owed, prophecy, dues);
+        return addPair(market.owed, prophecy, dues);
     }
 
     public int whose() {
         int set = 0;
-        for (int i = 0; i < all.textCount; i++) {
-            set |= agrees(all.textAt(i)) ? bit(i) : 0;
+        for (int i = 0; i < market.textCount; i++) {
+            set |= agrees(market.textAt(i)) ? bit(i) : 0;
         }
         return set;
     }
 
     private boolean agrees(Text text) {
-        for (int i = 0; i < all.owed.count; i++) {
-            int prophecy = all.owed.get(i, 0);
-            if (all.now.prophecies.has(prophecy)
-                && duesBy(text, all.now, prophecy) != all.owed.get(i, 1)) {
+        for (int i = 0; i < market.owed.count; i++) {
+            int prophecy = market.owed.get(i, 0);
+            if (market.now.prophecies.has(prophecy)
+                && duesBy(text, market.now, prophecy) != market.owed.get(i, 1)) {
                 return false;
             }
         }
@@ -987,7 +962,7 @@ public final class ProphetLiable {
     }
 
     private int firstOfMost(int column) {
-        Rows prophets = all.now.prophets;
+        Rows prophets = market.now.prophets;
         int best = NONE;
         int most = NONE;
         for (int i = 0; i < prophets.count; i++) {
@@ -1001,16 +976,16 @@ public final class ProphetLiable {
 
     public int ruined() {
         int set = 0;
-        for (int i = 0; i < all.now.prophets.count; i++) {
-            set |= all.now.prophets.get(i, RUINED_COLUMN) == 1 ? bit(i) : 0;
+        for (int i = 0; i < market.now.prophets.count; i++) {
+            set |= market.now.prophets.get(i, RUINED_COLUMN) == 1 ? bit(i) : 0;
         }
         return set;
     }
 
     public int idle() {
         int set = 0;
-        for (int i = 0; i < all.now.prophets.count; i++) {
-            set |= all.now.openOf(i) == 0 ? bit(i) : 0;
+        for (int i = 0; i < market.now.prophets.count; i++) {
+            set |= market.now.openOf(i) == 0 ? bit(i) : 0;
         }
         return set;
     }
@@ -1020,8 +995,8 @@ public final class ProphetLiable {
             return OTHER;
         }
         int sum = 0;
-        for (int i = 0; i < all.now.book.count; i++) {
-            sum += all.now.written(i, 2) == what ? all.now.written(i, 3) : 0;
+        for (int i = 0; i < market.now.book.count; i++) {
+            sum += market.now.written(i, 2) == what ? market.now.written(i, 3) : 0;
         }
         return sum;
     }
@@ -1029,33 +1004,33 @@ public final class ProphetLiable {
     // The IMAGE.
 
     public int image() {
-        kept.copyFrom(all);
-        return all.now.today;
+        kept.copyFrom(market);
+        return market.now.today;
     }
 
     public int back() {
-        all.copyFrom(kept);
-        return all.now.today;
+        market.copyFrom(kept);
+        return market.now.today;
     }
 
     public int about(int what) {
         switch (what) {
             case 0:
-                return all.facts.count;
+                return market.facts.count;
             case 1:
-                return all.now.prophets.count;
+                return market.now.prophets.count;
             case 2:
-                return all.textCount;
+                return market.textCount;
             case 3:
-                return all.rule;
+                return market.rule;
             case 4:
-                return all.steps;
+                return market.steps;
             case 5:
-                return all.offers.count;
+                return market.offers.count;
             case 6:
-                return all.heard.count;
+                return market.heard.count;
             case 7:
-                return all.owed.count;
+                return market.owed.count;
             case 8:
                 return tapeLength;
             default:
@@ -1069,7 +1044,7 @@ public final class ProphetLiable {
     }
 
     private int everyFact() {
-        return bit(all.facts.count) - 1;
+        return bit(market.facts.count) - 1;
     }
 
     private static boolean met(boolean every, int facts, int so) {
@@ -1105,20 +1080,19 @@ public final class ProphetLiable {
             return row >= 0 && row < count;
         }
 
+        /** What stands there; 0 where there is no such row or column. */
         int get(int row, int column) {
-            int at = placeOf(row, column);
-            return at >= 0 && at < cells.length ? cells[at] : 0;
+            int at = row * width + column;
+            boolean there = row >= 0 && row < count && column >= 0 && column < width;
+            return there && at >= 0 && at < cells.length ? cells[at] : 0;
         }
 
         void set(int row, int column, int value) {
-            int at = placeOf(row, column);
-            if (at >= 0 && at < cells.length) {
+            int at = row * width + column;
+            boolean there = row >= 0 && row < count && column >= 0 && column < width;
+            if (there && at >= 0 && at < cells.length) {
                 cells[at] = value;
             }
-        }
-
-        private int placeOf(int row, int column) {
-            return has(row) && column >= 0 && column < width ? row * width + column : NONE;
         }
 
         /** A row of zeros behind all others: its number; NONE if there is no room. */
@@ -1128,35 +1102,30 @@ public final class ProphetLiable {
             }
             int row = count;
             count++;
-            for (int i = 0; i < width; i++) {
-                set(row, i, 0);
+            int from = row * width;
+            if (from >= 0 && from + width <= cells.length) {
+                Arrays.fill(cells, from, from + width, 0);
             }
             return row;
         }
 
-        /** As grow, but the eldest row makes room. */
-        int growLatest() {
-            if (count >= most && count > 0) {
+        /** The eldest row goes, if there is no room for another one. */
+        void makeRoom() {
+            if (count >= most && count > 0 && width <= cells.length) {
                 System.arraycopy(cells, width, cells, 0, cells.length - width);
                 count--;
             }
-            return grow();
         }
 
         void clear() {
             count = 0;
         }
 
-        void copyFrom(Rows other) {
-            takeRows(other);
-            count = Math.min(most, other.count);
-        }
-
-        /** The rows that the other one has become as they are there; those behind them stay. */
-        void takeRows(Rows other) {
+        /** The rows of the other one; behind them, what stood here among the first keep rows. */
+        void take(Rows other, int keep) {
             int used = Math.min(other.count * other.width, Math.min(other.cells.length, cells.length));
-            System.arraycopy(other.cells, 0, cells, 0, used);
-            count = Math.min(most, Math.max(count, other.count));
+            System.arraycopy(other.cells, 0, cells, 0, Math.max(0, used));
+            count = Math.min(most, Math.max(keep, other.count));
         }
     }
 
@@ -1170,23 +1139,14 @@ public final class ProphetLiable {
         // Of each: DAY, and the rest as one number, since every STEP that is kept has a book.
         private final Rows book = new Rows(BOOK_MOST, 2);
 
-        void copyFrom(World other) {
-            prophets.copyFrom(other.prophets);
-            copyButProphets(other);
-        }
-
-        /** As copyFrom, but PROPHETS that the other one doesn't know stay as they are. */
-        void returnTo(World other) {
-            prophets.takeRows(other.prophets);
-            copyButProphets(other);
-        }
-
-        private void copyButProphets(World other) {
+        /** All of the other one; but PROPHETS that it doesn't know, of the first keep, stay. */
+        void take(World other, int keep) {
             today = other.today;
             x = other.x;
             so = other.so;
-            prophecies.copyFrom(other.prophecies);
-            book.copyFrom(other.book);
+            prophets.take(other.prophets, keep);
+            prophecies.take(other.prophecies, 0);
+            book.take(other.book, 0);
         }
 
         int draw() {
@@ -1231,8 +1191,28 @@ public final class ProphetLiable {
             prophets.set(prophet, PURSE_COLUMN, prophets.get(prophet, PURSE_COLUMN) - much);
         }
 
+        void comeTrue(int prophecy, int renown) {
+            int whose = prophecies.get(prophecy, WHOSE_COLUMN);
+            int fame = prophets.get(whose, FAME_COLUMN) + renown;
+            prophets.set(whose, FAME_COLUMN, Math.min(FAME_MOST, fame));
+            prophecies.set(prophecy, HOW_COLUMN, CAME_TRUE);
+            write(BOOK_TRUE, prophecy, renown);
+        }
+
+        void fail(int prophecy, int dues) {
+            int whose = prophecies.get(prophecy, WHOSE_COLUMN);
+            int paid = Math.min(dues, prophets.get(whose, PURSE_COLUMN));
+            lose(whose, paid);
+            if (paid < dues) {
+                prophets.set(whose, RUINED_COLUMN, 1);
+            }
+            prophecies.set(prophecy, HOW_COLUMN, FAILED);
+            write(BOOK_FAILED, prophecy, paid);
+        }
+
         void write(int what, int prophecy, int much) {
-            int row = book.growLatest();
+            book.makeRoom();
+            int row = book.grow();
             book.set(row, 0, today);
             book.set(row, 1, (what * PROPHECIES_MOST + prophecy) * (DUES_MOST + 1) + much);
         }
@@ -1277,7 +1257,7 @@ public final class ProphetLiable {
         void remember() {
             World kept = pastAt(eldest + steps);
             if (kept != null) {
-                kept.copyFrom(now);
+                kept.take(now, 0);
             }
             if (steps < STEPS_MOST) {
                 steps++;
@@ -1292,7 +1272,7 @@ public final class ProphetLiable {
             if (steps == 0 || kept == null) {
                 return NONE;
             }
-            now.returnTo(kept);
+            now.take(kept, now.prophets.count);
             steps--;
             return steps;
         }
@@ -1320,25 +1300,128 @@ public final class ProphetLiable {
         }
 
         void copyFrom(Market other) {
-            now.copyFrom(other.now);
+            now.take(other.now, 0);
             for (int i = 0; i < STEPS_MOST; i++) {
                 World mine = pastAt(i);
                 World its = other.pastAt(i);
                 if (mine != null && its != null) {
-                    mine.copyFrom(its);
+                    mine.take(its, 0);
                 }
             }
             eldest = other.eldest;
             steps = other.steps;
-            facts.copyFrom(other.facts);
-            offers.copyFrom(other.offers);
-            heard.copyFrom(other.heard);
-            owed.copyFrom(other.owed);
+            facts.take(other.facts, 0);
+            offers.take(other.offers, 0);
+            heard.take(other.heard, 0);
+            owed.take(other.owed, 0);
             textCount = 0;
             for (int i = 0; i < other.textCount; i++) {
                 addText(other.textAt(i));
             }
             rule = other.rule;
+        }
+    }
+
+    /** A DUEL over all WORDS on offer; each position is reckoned once. */
+    private static final class Contest {
+        private final int[] anyWords = new int[TOLD_MOST];
+        private int anyCount;
+        // The FACTS of all WORDS of all: each of these has to be SO.
+        private int must;
+        private int facts;
+        // Two bits for each position: 0 not reckoned yet, 1 it doesn't come about, 2 it does.
+        private final int[] found = new int[POSITIONS / 16 + 1];
+
+        void begin(Rows offers) {
+            Arrays.fill(found, 0);
+            anyCount = 0;
+            must = 0;
+            facts = 0;
+            for (int i = 0; i < offers.count; i++) {
+                int set = offers.get(i, OFFER_FACTS);
+                facts |= set;
+                if (offers.get(i, OFFER_ALL) == 1) {
+                    must |= set;
+                } else if (anyCount < anyWords.length) {
+                    anyWords[anyCount] = set;
+                    anyCount++;
+                }
+            }
+        }
+
+        /** The lowest FACT by which the one who begins gets it as it wants; NONE. */
+        int firstFact(boolean maker) {
+            for (int i = 0; i < FACTS_MOST; i++) {
+                if ((facts & bit(i)) != 0 && comesAboutBy(i, facts, 0, maker, FACTS_MOST) == maker) {
+                    return i;
+                }
+            }
+            return NONE;
+        }
+
+        /**
+         * Whether each WORD comes about when the FACTS in left are still to be decided, in at most
+         * so many turns, and of the others those in so are SO.
+         */
+        boolean comesAbout(int left, int so, boolean makerNext, int turns) {
+            if (isWon(so)) {
+                return true;
+            }
+            if (turns <= 0 || !isWon(so | left)) {
+                return false;
+            }
+            int position = positionOf(left, so);
+            int known = recall(position);
+            if (known != 0) {
+                return known == 2;
+            }
+            boolean comes = !makerNext;
+            for (int i = 0; i < FACTS_MOST && comes != makerNext; i++) {
+                if ((left & bit(i)) != 0) {
+                    comes = comesAboutBy(i, left, so, makerNext, turns);
+                }
+            }
+            keep(position, comes ? 2 : 1);
+            return comes;
+        }
+
+        private boolean comesAboutBy(int fact, int left, int so, boolean makerNext, int turns) {
+            int then = makerNext ? so | bit(fact) : so;
+            return comesAbout(left & ~bit(fact), then, !makerNext, turns - 1);
+        }
+
+        private boolean isWon(int so) {
+            if ((must & ~so) != 0) {
+                return false;
+            }
+            for (int i = 0; i < anyCount && i < anyWords.length; i++) {
+                if ((anyWords[i] & so) == 0) {
+                    return false;
+                }
+            }
+            return true;
+        }
+
+        /** A number of its own for each way in which 8 FACTS are undecided, SO or not. */
+        private static int positionOf(int left, int so) {
+            int position = 0;
+            for (int i = 0; i < FACTS_MOST; i++) {
+                int state = (left & bit(i)) != 0 ? 0 : (so & bit(i)) != 0 ? 1 : 2;
+                position = position * 3 + state;
+            }
+            return position;
+        }
+
+        private int recall(int position) {
+            int at = position / 16;
+            return at >= 0 && at < found.length ? found[at] >> position % 16 * 2 & 3 : 0;
+        }
+
+        private void keep(int position, int result) {
+            int at = position / 16;
+            if (at >= 0 && at < found.length) {
+                found[at] |= result << position % 16 * 2;
+            }
         }
     }
 
@@ -1369,64 +1452,56 @@ public final class ProphetLiable {
         }
     }
 
-    /**
-     * Reads a tape as a TEXT, by a descent along the grammar that stays at the first FAULT. Laws
-     * become code with each operation behind what it takes: NUMBERS as they are, all else as the
-     * TOKEN's number below 0.
-     */
-    private static final class Reader {
-        private final int[] code = new int[TAPE_MOST];
-        private int codeLength;
-        private int[] bytes = NO_LAW;
-        private int length;
-        private int token;
-        private int number;
-        private int place;
-        private int behind;
-        private int wrong;
-        private int clauseLaw;
-        private Text draft = new Text();
+    /** A tape taken apart into its TOKENS, with one more behind them for the end. */
+    private static final class Tokens {
+        private final int[] kinds = new int[TAPE_MOST + 1];
+        private final int[] numbers = new int[TAPE_MOST + 1];
+        private final int[] places = new int[TAPE_MOST + 1];
+        private int count;
 
-        /** The TEXT; null if it has a FAULT, which wrong and place tell then. */
-        Text read(int[] tape, int tapeLength) {
-            bytes = tape;
-            length = Math.min(tapeLength, tape.length);
-            behind = 0;
-            wrong = 0;
-            draft = new Text();
-            advance();
-            // Each CLAUSE takes at least one byte.
-            for (int i = 0; i < length && wrong == 0 && token != NO_MORE; i++) {
-                readClause();
-            }
-            return wrong == 0 ? draft : null;
+        int kindAt(int i) {
+            return i >= 0 && i < count && i < kinds.length ? kinds[i] : NO_MORE;
         }
 
-        private void blame(int fault) {
-            if (wrong == 0) {
-                wrong = fault;
-            }
+        int numberAt(int i) {
+            return i >= 0 && i < count && i < numbers.length ? numbers[i] : 0;
         }
 
-        private int byteAt(int at) {
-            return at >= 0 && at < length && at < bytes.length ? bytes[at] : NONE;
+        int placeAt(int i) {
+            return i >= 0 && i < count && i < places.length ? places[i] : 0;
         }
 
-        private void advance() {
-            int at = behind;
-            while (at < length && (byteAt(at) == ' ' || byteAt(at) == '\n')) {
-                at++;
+        void split(int[] tape, int tapeLength) {
+            int length = Math.min(tapeLength, tape.length);
+            count = 0;
+            int at = 0;
+            while (at < length) {
+                int sign = tape[at];
+                int behind = at + 1;
+                if (isLetter(sign)) {
+                    behind = behindWord(tape, at, length);
+                    add(wordOf(tape, at, behind), 0, at);
+                } else if (isDigit(sign)) {
+                    behind = behindNumber(tape, at, length);
+                    add(NUMBER, numberOf(tape, at, behind), at);
+                } else if (behind < length && tape[behind] == '=' && (sign == '<' || sign == '>')) {
+                    behind++;
+                    add(sign == '<' ? AT_MOST : AT_LEAST, 0, at);
+                } else if (sign != ' ' && sign != '\n') {
+                    int index = SIGNS.indexOf((char) sign);
+                    add(index < 0 ? STRANGE : LESS + index, 0, at);
+                }
+                at = behind;
             }
-            place = at;
-            behind = at + 1;
-            if (at >= length) {
-                token = NO_MORE;
-            } else if (isLetter(byteAt(at))) {
-                takeWord();
-            } else if (isDigit(byteAt(at))) {
-                takeNumber();
-            } else {
-                takeSign();
+            add(NO_MORE, 0, length);
+        }
+
+        private void add(int kind, int number, int place) {
+            if (count >= 0 && count < kinds.length && count < numbers.length && count < places.length) {
+                kinds[count] = kind;
+                numbers[count] = number;
+                places[count] = place;
+                count++;
             }
         }
 
@@ -1438,77 +1513,127 @@ public final class ProphetLiable {
             return within(sign, '0', '9');
         }
 
-        private void takeWord() {
-            while (behind < length && isLetter(byteAt(behind))) {
-                behind++;
+        private static int behindWord(int[] tape, int from, int length) {
+            int at = from + 1;
+            while (at >= 0 && at < length && at < tape.length && isLetter(tape[at])) {
+                at++;
             }
-            token = STRANGE;
-            int id = 1;
+            return at;
+        }
+
+        private static int behindNumber(int[] tape, int from, int length) {
+            int at = from + 1;
+            while (at >= 0 && at < length && at < tape.length && isDigit(tape[at])) {
+                at++;
+            }
+            return at;
+        }
+
+        private static int numberOf(int[] tape, int from, int behind) {
+            int number = 0;
+            for (int at = Math.max(0, from); at < behind && at < tape.length; at++) {
+                // One above the most tells that it is too much, however many digits come.
+                number = Math.min(NUMBER_MOST + 1, number * 10 + tape[at] - '0');
+            }
+            return number;
+        }
+
+        /** The number of a word of the language; STRANGE if it is none. */
+        private static int wordOf(int[] tape, int from, int behind) {
+            int word = 1;
             int start = 0;
-            for (int i = 0; i < WORDS.length() && token == STRANGE; i++) {
+            for (int i = 0; i < WORDS.length(); i++) {
                 if (WORDS.charAt(i) == ' ') {
-                    if (i - start == behind - place && isLikeWord(start)) {
-                        token = id;
+                    if (i - start == behind - from && isLike(start, tape, from, behind)) {
+                        return word;
                     }
-                    id++;
+                    word++;
                     start = i + 1;
                 }
             }
+            return STRANGE;
         }
 
-        private boolean isLikeWord(int start) {
-            for (int i = 0; i < behind - place; i++) {
-                int at = start + i;
-                if (at >= WORDS.length() || WORDS.charAt(at) != byteAt(place + i)) {
+        private static boolean isLike(int start, int[] tape, int from, int behind) {
+            int in = start;
+            for (int at = Math.max(0, from); at < behind && at < tape.length; at++) {
+                if (in < 0 || in >= WORDS.length() || WORDS.charAt(in) != tape[at]) {
                     return false;
                 }
+                in++;
             }
             return true;
         }
+    }
 
-        private void takeNumber() {
-            token = NUMBER;
-            number = byteAt(place) - '0';
-            while (behind < length && isDigit(byteAt(behind))) {
-                // One above the most tells that it is too much, however many digits come.
-                number = Math.min(NUMBER_MOST + 1, number * 10 + byteAt(behind) - '0');
-                behind++;
+    /**
+     * Reads a tape as a TEXT, by a descent along the grammar that stays at the first FAULT. Laws
+     * become code with each operation behind what it takes: NUMBERS as they are, all else as the
+     * TOKEN's number below 0.
+     */
+    private static final class Reader {
+        private final Tokens tokens = new Tokens();
+        private final int[] code = new int[TAPE_MOST];
+        private int codeLength;
+        private int at;
+        private int token;
+        private int wrong;
+        private int clauseLaw;
+        private Text draft = new Text();
+
+        /** The TEXT; null if it has a FAULT, which wrong and place() tell then. */
+        Text read(int[] tape, int tapeLength) {
+            tokens.split(tape, tapeLength);
+            at = 0;
+            token = tokens.kindAt(0);
+            wrong = 0;
+            draft = new Text();
+            // One turn more than there may be CLAUSES finds the one too many.
+            for (int i = 0; i <= CLAUSES_MOST && wrong == 0 && token != NO_MORE; i++) {
+                readClause();
             }
+            return wrong == 0 ? draft : null;
         }
 
-        private void takeSign() {
-            int index = SIGNS.indexOf((char) byteAt(place));
-            token = index < 0 ? STRANGE : LESS + index;
-            if ((token == LESS || token == MORE) && byteAt(behind) == '=') {
-                token = token == LESS ? AT_MOST : AT_LEAST;
-                behind++;
+        /** Where the TOKEN stands that has been come to. */
+        int place() {
+            return tokens.placeAt(at);
+        }
+
+        private void advance() {
+            at++;
+            token = tokens.kindAt(at);
+        }
+
+        private void blame(int fault) {
+            if (wrong == 0) {
+                wrong = fault;
             }
         }
 
         private void expect(int wanted) {
-            if (wrong != 0) {
-                return;
-            }
-            if (token == wanted) {
-                advance();
-            } else {
+            if (wrong == 0 && token != wanted) {
                 blame(FAULT_PLACE);
+            }
+            if (wrong == 0) {
+                advance();
             }
         }
 
+        /** A NUMBER from low to high; 0 behind a FAULT. */
         private int readNumber(int low, int high) {
             if (wrong != 0) {
                 return 0;
             }
-            int value = number;
+            int value = tokens.numberAt(at);
             if (token != NUMBER) {
                 blame(FAULT_PLACE);
-            } else if (!within(value, low, high)) {
+            } else if (value < low || value > high) {
                 blame(FAULT_NUMBER);
             } else {
                 advance();
             }
-            return value;
+            return wrong == 0 ? value : 0;
         }
 
         private void readClause() {
@@ -1526,6 +1651,8 @@ public final class ProphetLiable {
                 advance();
                 if (isLaw) {
                     readLaw(kind);
+                } else if (kind == FORETELL) {
+                    readForetell(row);
                 } else {
                     readAct(kind, row);
                 }
@@ -1545,51 +1672,46 @@ public final class ProphetLiable {
         }
 
         private void readAct(int kind, int row) {
+            Rows clauses = draft.clauses;
             switch (kind) {
                 case FACT:
-                    readInto(row, 1, 0, ODDS_MOST);
+                    clauses.set(row, 1, readNumber(0, ODDS_MOST));
                     expect(COST);
-                    readInto(row, 2, 0, COST_MOST);
+                    clauses.set(row, 2, readNumber(0, COST_MOST));
                     break;
                 case PROPHET:
-                    readInto(row, 1, 0, PURSE_MOST);
+                    clauses.set(row, 1, readNumber(0, PURSE_MOST));
                     expect(FAME);
-                    readInto(row, 2, 0, FAME_MOST);
-                    break;
-                case FORETELL:
-                    readForetell(row);
+                    clauses.set(row, 2, readNumber(0, FAME_MOST));
                     break;
                 case SELL:
-                    readInto(row, 1, 0, PROPHECIES_MOST - 1);
+                    clauses.set(row, 1, readNumber(0, PROPHECIES_MOST - 1));
                     expect(TO);
-                    readInto(row, 2, 0, PROPHETS_MOST - 1);
+                    clauses.set(row, 2, readNumber(0, PROPHETS_MOST - 1));
                     expect(PRICE);
-                    readInto(row, 3, 0, FEE_MOST);
+                    clauses.set(row, 3, readNumber(0, FEE_MOST));
                     break;
                 case DAY:
-                    readInto(row, 1, 1, DAYS_MOST);
+                    clauses.set(row, 1, readNumber(1, DAYS_MOST));
                     break;
                 default:
-                    readInto(row, 1, 0, FACTS_MOST - 1);
+                    clauses.set(row, 1, readNumber(0, FACTS_MOST - 1));
                     expect(BY);
-                    readInto(row, 2, 0, PROPHETS_MOST - 1);
+                    clauses.set(row, 2, readNumber(0, PROPHETS_MOST - 1));
                     break;
             }
         }
 
-        private void readInto(int row, int column, int low, int high) {
-            draft.clauses.set(row, column, readNumber(low, high));
-        }
-
         private void readForetell(int row) {
-            readInto(row, 1, 0, PROPHETS_MOST - 1);
-            draft.clauses.set(row, 2, token == ALL ? 1 : 0);
+            Rows clauses = draft.clauses;
+            clauses.set(row, 1, readNumber(0, PROPHETS_MOST - 1));
+            clauses.set(row, 2, token == ALL ? 1 : 0);
             expect(token == ALL ? ALL : ANY);
-            draft.clauses.set(row, 3, readFacts());
+            clauses.set(row, 3, readFacts());
             expect(IN);
-            readInto(row, 4, 1, DUE_IN_MOST);
+            clauses.set(row, 4, readNumber(1, DUE_IN_MOST));
             expect(FEE);
-            readInto(row, 5, 0, FEE_MOST);
+            clauses.set(row, 5, readNumber(0, FEE_MOST));
         }
 
         private int readFacts() {
@@ -1616,7 +1738,7 @@ public final class ProphetLiable {
 
         private void readSum(int open) {
             readProduct(open);
-            for (int i = 0; i < length && wrong == 0 && (token == PLUS || token == MINUS); i++) {
+            for (int i = 0; i < TAPE_MOST && wrong == 0 && (token == PLUS || token == MINUS); i++) {
                 int sign = token;
                 advance();
                 readProduct(open);
@@ -1626,7 +1748,7 @@ public final class ProphetLiable {
 
         private void readProduct(int open) {
             readOne(open);
-            for (int i = 0; i < length && wrong == 0 && (token == TIMES || token == OVER); i++) {
+            for (int i = 0; i < TAPE_MOST && wrong == 0 && (token == TIMES || token == OVER); i++) {
                 int sign = token;
                 advance();
                 readOne(open);
@@ -1711,7 +1833,7 @@ public final class ProphetLiable {
 
         private void readEither(int open) {
             readBoth(open);
-            for (int i = 0; i < length && wrong == 0 && token == OR; i++) {
+            for (int i = 0; i < TAPE_MOST && wrong == 0 && token == OR; i++) {
                 advance();
                 readBoth(open);
                 emit(-OR);
@@ -1720,7 +1842,7 @@ public final class ProphetLiable {
 
         private void readBoth(int open) {
             readAsk(open);
-            for (int i = 0; i < length && wrong == 0 && token == AND; i++) {
+            for (int i = 0; i < TAPE_MOST && wrong == 0 && token == AND; i++) {
                 advance();
                 readAsk(open);
                 emit(-AND);
@@ -1783,21 +1905,23 @@ public final class ProphetLiable {
         }
 
         private static int takesOf(int step) {
-            if (step >= 0 || -step <= DUE && !isOperation(-step)) {
+            int id = -step;
+            boolean isName = id <= DUE && (id < PERCENT || id > NOT);
+            if (isName) {
                 return 0;
             }
-            if (step == -NEGATE || step == -SO || step == -NOT) {
+            if (id == NEGATE || id == SO || id == NOT) {
                 return 1;
             }
-            return step == -IF ? 3 : 2;
+            return id == IF ? 3 : 2;
         }
 
-        private static boolean isOperation(int id) {
-            return within(id, PERCENT, NOT);
-        }
-
+        /** What a NUMBER or a NAME is. */
         private int simple(int step) {
-            return step >= 0 ? step : -step < names.length ? names[-step] : 0;
+            if (step >= 0) {
+                return step;
+            }
+            return -step < names.length ? names[-step] : 0;
         }
 
         private static int limit(long value) {
@@ -1822,31 +1946,24 @@ public final class ProphetLiable {
                     return a >= 0 && a < FACTS_MOST ? so >> (int) a & 1 : 0;
                 case IF:
                     return a != 0 ? b : c;
-                default:
-                    return isTrue(operation, a, b) ? 1 : 0;
-            }
-        }
-
-        private static boolean isTrue(int operation, long a, long b) {
-            switch (operation) {
                 case LESS:
-                    return a < b;
+                    return a < b ? 1 : 0;
                 case AT_MOST:
-                    return a <= b;
+                    return a <= b ? 1 : 0;
                 case MORE:
-                    return a > b;
+                    return a > b ? 1 : 0;
                 case AT_LEAST:
-                    return a >= b;
+                    return a >= b ? 1 : 0;
                 case LIKE:
-                    return a == b;
+                    return a == b ? 1 : 0;
                 case UNLIKE:
-                    return a != b;
+                    return a != b ? 1 : 0;
                 case NOT:
-                    return a == 0;
+                    return a == 0 ? 1 : 0;
                 case AND:
-                    return a != 0 && b != 0;
+                    return a != 0 && b != 0 ? 1 : 0;
                 default:
-                    return a != 0 || b != 0;
+                    return a != 0 || b != 0 ? 1 : 0;
             }
         }
     }
