@@ -1363,7 +1363,7 @@ public final class ProphetLiable {
          * Whether each WORD comes about when the FACTS in left are still to be decided, in at most
          * so many turns, and of the others those in so are SO.
          */
-        boolean comesAbout(int left, int so, boolean makerNext, int turns) {
+        private boolean comesAbout(int left, int so, boolean makerNext, int turns) {
             if (isWon(so)) {
                 return true;
             }
@@ -1475,7 +1475,8 @@ public final class ProphetLiable {
             int length = Math.min(tapeLength, tape.length);
             count = 0;
             int at = 0;
-            while (at < length) {
+            // Each turn goes on by at least one byte.
+            for (int turn = 0; turn < TAPE_MOST && at < length; turn++) {
                 int sign = tape[at];
                 int behind = at + 1;
                 if (isLetter(sign)) {

@@ -82,9 +82,15 @@ public final class ModelTest {
         for (int i = 0; i < told + 1; i++) {
             call("prophet", chance(50) ? pick(300) : near(0, 9999), near(0, 99));
         }
+        // In a quiet run few DAYS pass, so that PROPHECIES stay open for the questions about them.
+        boolean quiet = chance(50);
         int calls = 100 + pick(200);
         for (int i = 0; i < calls && same; i++) {
-            draw(CALLS[pick(CALLS.length)]);
+            String name = CALLS[pick(CALLS.length)];
+            boolean passes = List.of("day", "played", "years", "DAYS").contains(name);
+            if (!quiet || !passes || chance(8)) {
+                draw(name);
+            }
             if (i % 25 == 24) {
                 portrait();
             }
@@ -127,7 +133,12 @@ public final class ModelTest {
                     chance(80) ? pick(40) : near(0, 999));
                 break;
             case "bring": case "spoil": call(name, near(0, 3), near(0, facts - 1)); break;
-            case "sell": call(name, near(0, 11), near(0, 4), chance(80) ? pick(40) : near(0, 999)); break;
+            case "sell": {
+                int words = Math.max(1, model.is(3));
+                call(name, near(0, words - 1), near(0, Math.max(0, model.about(1) - 1)),
+                    chance(80) ? pick(40) : near(0, 999));
+                break;
+            }
             case "day": call(name, chance(80) ? near(1, 3) : near(1, 60)); break;
             case "played": call(name, near(0, 3)); break;
             case "years": call(name, near(0, 9999), near(1, 40)); break;
@@ -137,7 +148,7 @@ public final class ModelTest {
             case "is": call(name, near(0, 3)); break;
             case "book": call(name, near(-1, 29), near(0, 3)); break;
             case "ahead": call(name, near(1, 60), near(0, 2), near(0, 8)); break;
-            case "until": call(name, near(0, 11)); break;
+            case "until": call(name, near(0, Math.max(0, model.is(3) - 1))); break;
             case "odds": call(name, all, chance(5) ? near(0, 300) : set & set >> 1 & 1 | pick(8) | 1 << pick(facts), near(1, 4), low); break;
             case "fair": call(name, all, chance(5) ? near(0, 300) : pick(8) | 1 << pick(facts), near(1, 4), near(0, 999), low); break;
             case "least": case "stop": {

@@ -38,6 +38,9 @@ final class TextMaker {
                 String law = i < 3 && (laws >> i & 1) == 1 ? new String[] {"comes", "dues", "renown"}[i] : null;
                 sb.append(law == null ? terse ? oneOf("day 1;", "fact 1 cost 2;", "day 2;") : act() : law(law));
             }
+            if (chance(4)) {
+                sb.append(law(oneOf("comes", "dues", "renown")));
+            }
             String made = chance(25) ? broken(sb.toString()) : sb.toString();
             if (made.length() <= 300) {
                 return made;
@@ -50,6 +53,12 @@ final class TextMaker {
     }
 
     private String law(String kind) {
+        if (chance(6)) {
+            return kind + " " + nested(kind, 7 + pick(4)) + ";";
+        }
+        if (chance(3)) {
+            return kind + " if " + "not ".repeat(5 + pick(5)) + nested(kind, pick(3)) + "=1 then 4 else 5 end;";
+        }
         return kind + space() + sum(kind, chance(8) ? 9 : pick(5)) + (chance(50) ? " " : "") + ";" + (chance(50) ? "\n" : "");
     }
 
@@ -74,6 +83,30 @@ final class TextMaker {
         String[] ofOthers = {"day", "many", "who", "fame", "purse", "fee", "facts", "due"};
         boolean comes = kind.equals("comes") != chance(1);
         return comes ? oneOf(ofComes) : oneOf(ofOthers);
+    }
+
+    /** As many of those that can be open around one another as are asked for. */
+    private String nested(String kind, int times) {
+        if (times <= 0) {
+            return name(kind);
+        }
+        String inner = nested(kind, times - 1);
+        switch (pick(7)) {
+            case 0:
+                return "(" + inner + ")";
+            case 1:
+                return "-" + inner;
+            case 2:
+                return "so " + inner;
+            case 3:
+                return "percent " + inner + " of 7";
+            case 4:
+                return "percent 7 of " + inner;
+            case 5:
+                return "if " + inner + "<3 then 1 else 2 end";
+            default:
+                return "(3*" + inner + "-(1))";
+        }
     }
 
     private String one(String kind, int deep) {
@@ -142,7 +175,7 @@ final class TextMaker {
         int times = 1 + pick(2);
         for (int i = 0; i < times; i++) {
             int at = pick(sb.length() + 1);
-            switch (pick(4)) {
+            switch (pick(6)) {
                 case 0:
                     sb.insert(at, " " + oneOf(NOISE) + " ");
                     break;
@@ -152,12 +185,31 @@ final class TextMaker {
                 case 2:
                     sb.delete(at, Math.min(sb.length(), at + 1 + pick(6)));
                     break;
-                default:
+                case 3:
                     sb.insert(at, (char) pick(256));
+                    break;
+                default:
+                    replaceToken(sb, at);
                     break;
             }
         }
         return sb.toString();
+    }
+
+    /** Puts another TOKEN in the place of the one behind at; of a NUMBER mostly a NUMBER. */
+    private void replaceToken(StringBuilder sb, int at) {
+        int from = at;
+        while (from < sb.length() && !Character.isLetterOrDigit(sb.charAt(from))) {
+            from++;
+        }
+        boolean digit = from < sb.length() && Character.isDigit(sb.charAt(from));
+        int to = from;
+        while (to < sb.length() && Character.isLetterOrDigit(sb.charAt(to))) {
+            to++;
+        }
+        String number = oneOf("0", "1", "4", "5", "7", "8", "10", "11", "12", "60", "61", "99", "100", "999", "1000",
+            "9999", "10000");
+        sb.replace(from, to, digit && chance(80) ? number : oneOf(NOISE));
     }
 
     /** The words of feed that have the bytes of a text, five to a row; the last ones end with 0. */
