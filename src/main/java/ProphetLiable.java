@@ -1459,10 +1459,6 @@ public final class ProphetLiable {
         private final int[] places = new int[TAPE_MOST + 1];
         private int count;
 
-        int kindAt(int i) {
-            return i >= 0 && i < count && i < kinds.length ? kinds[i] : NO_MORE;
-        }
-
         int numberAt(int i) {
             return i >= 0 && i < count && i < numbers.length ? numbers[i] : 0;
         }
@@ -1585,8 +1581,8 @@ public final class ProphetLiable {
         /** The TEXT; null if it has a FAULT, which wrong and place() tell then. */
         Text read(int[] tape, int tapeLength) {
             tokens.split(tape, tapeLength);
-            at = 0;
-            token = tokens.kindAt(0);
+            at = NONE;
+            advance();
             wrong = 0;
             draft = new Text();
             // One turn more than there may be CLAUSES finds the one too many.
@@ -1603,7 +1599,8 @@ public final class ProphetLiable {
 
         private void advance() {
             at++;
-            token = tokens.kindAt(at);
+            boolean there = at >= 0 && at < tokens.count && at < tokens.kinds.length;
+            token = there ? tokens.kinds[at] : NO_MORE;
         }
 
         private void blame(int fault) {

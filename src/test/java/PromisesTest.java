@@ -1063,6 +1063,18 @@ public final class PromisesTest {
         due("book(0, -1)", x.book(0, -1), -2);
         due("book(2, 0)", x.book(2, 0), -2);
         due("book(-2, 0)", x.book(-2, 0), -2);
+        ProphetLiable y = facts(0);
+        y.prophet(9999, 0);
+        read(y, "dues 9999;");
+        y.by(0);
+        for (int i = 0; i < 12; i++) {
+            y.foretell(0, true, 1, i == 11 ? 1 : 99, 0);
+        }
+        y.day(2);
+        int[] most = {1, 11, 1, 9999};
+        for (int what = 0; what < 4; what++) {
+            due("book(0, " + what + ")", y.book(0, what), most[what]);
+        }
         x.foretell(0, true, 1, 99, 0);
         for (int i = 0; i < 31; i++) {
             due("sell", x.sell(2, 1 - i % 2, i), true);
@@ -1227,6 +1239,18 @@ public final class PromisesTest {
         x.foretell(0, false, 6, 9, 0);
         due("least(3, false)", x.least(3, false), 4);
         due("least(3, true)", x.least(3, true), 6);
+        // The least COST, though it takes more of them.
+        x = new ProphetLiable();
+        x.fact(0, 1);
+        x.fact(0, 1);
+        x.fact(0, 1);
+        x.fact(0, 4);
+        x.prophet(0, 0);
+        x.foretell(0, false, 9, 9, 0);
+        x.foretell(0, false, 10, 9, 0);
+        x.foretell(0, false, 12, 9, 0);
+        due("least(7, false)", x.least(7, false), 7);
+        due("least(7, true)", x.least(7, true), 3);
     }
 
     private static void promise26() {
@@ -1433,6 +1457,13 @@ public final class PromisesTest {
         duel(x, 1, 1, 0, 1);
         x.bring(0, 1);
         duel(x, 1, 1, 0, 1);
+        x.offer(true, 1, NONE, 1);
+        x.offer(false, 3, 1, 1);
+        x.offer(false, 12, 1, 1);
+        x.offer(false, 48, 1, 1);
+        x.offer(false, 192, 1, 1);
+        // The maker always takes the other one of the two, the last one, too.
+        duel(x, 1, 0, 1, NONE);
         x.offer(true, 1, NONE, 1);
         x.offer(true, 255, 1, 1);
         duel(x, 0, NONE, 0, 0);
