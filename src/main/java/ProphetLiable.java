@@ -424,7 +424,9 @@ public final class ProphetLiable {
         int kind = x % 6;
         if (kind <= 2 || kind == 3 && x % 5 == 0) {
             act(x, kind);
-        } else if (market.now.today < DAY_MOST) {
+        }
+        // Of the numbers that are left: a 3 that does not spoil is no DAY.
+        if (kind > 3 && market.now.today < DAY_MOST) {
             passDay(market.now);
         }
     }

@@ -425,8 +425,8 @@ public final class Model {
                 if (some) {
                     turn(x % prophets, x / 6 % facts, true, false);
                 }
-            } else if (k == 3 && x % 5 == 0) {
-                if (some) {
+            } else if (k == 3) {
+                if (some && x % 5 == 0) {
                     turn(x % prophets, x / 6 % facts, false, false);
                 }
             } else if (s.now.day < 9999) {

@@ -830,6 +830,7 @@ public final class PromisesTest {
         due("about(4)", x.about(4), 1);
         due("years(9999, 40)", x.years(9999, 40) >= 0, true);
         yearsOfSpoiling();
+        yearsOfNobody();
     }
 
     /** A SEED whose first turn is FORETOLD and whose second one is of a kind. */
@@ -855,8 +856,25 @@ public final class PromisesTest {
             x.bring(0, 1);
             x.bring(0, 2);
             boolean spoils = first % 5 == 0;
-            due("years(" + seed + ", 1)", x.years(seed, 1), spoils ? 0 : 1);
+            due("years(" + seed + ", 1)", x.years(seed, 1), 0);
+            due("is(1)", x.is(1), next(first));
             due("is(2)", x.is(2), spoils ? 7 & ~(1 << first / 6 % 3) : 7);
+        }
+    }
+
+    /** With neither a FACT nor a PROPHET the DAYS are those whose x mod 6 is 4 or 5, and no others. */
+    private static void yearsOfNobody() {
+        due("years(2, 6) of nobody", new ProphetLiable().years(2, 6), 1);
+        for (int seed = 0; seed <= 9999; seed += 101) {
+            int drawn = 2 * seed + 191;
+            int days = 0;
+            for (int i = 0; i < 40; i++) {
+                days += drawn % 6 > 3 ? 1 : 0;
+                drawn = next(drawn);
+            }
+            ProphetLiable x = new ProphetLiable();
+            due("years(" + seed + ", 40) of nobody", x.years(seed, 40), days);
+            due("is(1)", x.is(1), drawn);
         }
     }
 
