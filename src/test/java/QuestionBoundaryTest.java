@@ -568,7 +568,7 @@ public final class QuestionBoundaryTest {
         x.foretell(0, false, 10, 9, 0);
         x.foretell(0, true, 12, 9, 0);
         due("tells(0): none goes wrong by 3", x.tells(0), 3);
-        // By 0 or 2 four go wrong, those in which it isn't SO; by 1 or 3 the same four.
+        // By 1 or 3 none and four go wrong, by 0 or 2 two and two.
         due("tells(1): all are like", x.tells(1), 0);
         x.heard(1, false);
         due("tells(1): it is as 3 is", x.tells(1), 3);
@@ -582,7 +582,7 @@ public final class QuestionBoundaryTest {
         x.prophet(0, 0);
         x.foretell(0, true, 255, 9, 0);
         for (int i = 0; i < 8; i++) {
-            due("tells(0) with " + i + " HEARD of", x.tells(0), i == 7 ? 7 : i);
+            due("tells(0) with " + i + " HEARD of", x.tells(0), i);
             x.heard(i, true);
         }
         due("tells(0)", x.tells(0), NONE);
@@ -689,7 +689,7 @@ public final class QuestionBoundaryTest {
         ProphetLiable x = Check.quiet(5);
         x.offer(true, 16, 1, 1);
         x.offer(false, 9, 1, 1);
-        // The maker must have 4 at once. The spoiler takes any: one of 4, 0, 3 isn't to be had by two answers.
+        // The maker has to take 4 at once. If the spoiler takes 0, the maker needs 3 and 4, and gets one of them.
         duel(x, 1, 4, 0, 0);
         x.offer(true, 1, NONE, 1);
         x.offer(false, 24, 1, 1);
@@ -728,7 +728,7 @@ public final class QuestionBoundaryTest {
         fair(x, false, 7, 4, 999, 6561L * 2401 * 81 * 999, 1000000000000L);
         x.bring(0, 3);
         fair(x, false, 15, 1, 5, 0, 1);
-        fair(x, true, 15, 1, 1000 - 1, 979 * 999, 1000);
+        fair(x, true, 15, 1, 999, 979 * 999, 1000);
     }
 
     /** "in lowest terms". */
@@ -1070,19 +1070,29 @@ public final class QuestionBoundaryTest {
         }
     }
 
+    /** "of the PROPHET x mod how many there are .. of FACT x mod how many": where there is one, it is that one. */
+    static void partVYearsOfOneFactAndOneProphet() {
+        int seed = seed(1, 4, 3);
+        ProphetLiable x = Check.facts(0);
+        x.prophet(5, 0);
+        due("years(" + seed + ", 2)", x.years(seed, 2), 0);
+        due("word(0, 0)", x.word(0, 0), 0);
+        due("word(0, 2)", x.word(0, 2), 1);
+        x.years(seed(2, 1, 0), 2);
+        due("is(2)", x.is(2), 1);
+        x.years(seed(3, 5, 0), 2);
+        due("is(2)", x.is(2), 0);
+    }
+
     /** "(each if it can be)": FORETOLD not by one that is RUINED. */
     static void partVYearsForetoldNotByTheRuined() {
         int seed = seed(1, 5, 0);
         ProphetLiable x = yearly();
-        x.foretell(0, true, 1, 1, 11);
-        x.day(2);
-        due("PURSE is whole", x.of(0, 0), 1);
-        x.foretell(0, true, 1, 1, 11);
+        x.foretell(0, true, 1, 1, 12);
         x.day(2);
         due("ruined()", x.ruined(), 1);
-        due("is(3)", x.is(3), 2);
-        due("years(" + seed + ", 2)", x.years(seed, 2), 4);
-        due("is(3)", x.is(3), 2);
+        due("years(" + seed + ", 2)", x.years(seed, 2), 2);
+        due("is(3)", x.is(3), 1);
         due("of(0, 0)", x.of(0, 0), 0);
         due("is(1)", x.is(1), Check.next(drawn(seed)));
     }

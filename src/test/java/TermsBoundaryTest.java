@@ -112,17 +112,21 @@ public final class TermsBoundaryTest {
         due("ruined()", x.ruined(), 0);
     }
 
-    /** "RUINED or not (at first not)": also behind back(), where one with its number was RUINED. */
+    /** "RUINED or not (at first not)": also behind back(), where those with their numbers were RUINED. */
     static void termsProphetsNotRuinedBehindBack() {
         ProphetLiable x = Check.quiet(1);
-        x.prophet(0, 0);
-        x.foretell(0, true, 1, 1, 1);
+        for (int i = 0; i < 5; i++) {
+            x.prophet(0, 0);
+            x.foretell(i, true, 1, 1, 1);
+        }
         x.day(2);
-        due("ruined()", x.ruined(), 1);
+        due("ruined()", x.ruined(), 31);
         x.back();
         due("ruined() of nobody", x.ruined(), 0);
-        x.prophet(5, 5);
-        due("of(0, 2)", x.of(0, 2), 0);
+        for (int i = 0; i < 5; i++) {
+            x.prophet(5, 5);
+            due("of(" + i + ", 2)", x.of(i, 2), 0);
+        }
         due("ruined()", x.ruined(), 0);
     }
 
@@ -272,6 +276,20 @@ public final class TermsBoundaryTest {
             sb.append(x.book(i, 2)).append(' ').append(x.book(i, 3)).append("; ");
         }
         return sb.toString();
+    }
+
+    // ---- the calls of an object
+
+    /** "An object is used for at most 512 calls after it has been made": the 512th is answered as the others are. */
+    static void termsThe512thCall() {
+        ProphetLiable x = Check.quiet(1);
+        x.prophet(5, 0);
+        for (int calls = 2; calls < 510; calls += 2) {
+            x.bring(0, 0);
+            x.spoil(0, 0);
+        }
+        due("the 511th, bring(0, 0)", x.bring(0, 0), true);
+        due("the 512th, is(2)", x.is(2), 1);
     }
 
     // ---- part I: FORETOLD
@@ -662,6 +680,24 @@ public final class TermsBoundaryTest {
         due("ruined()", x.ruined(), 0);
     }
 
+    /** "by PROPHECIES that are open": those that ended stay as they are, whatever becomes of their FACTS. */
+    static void partIDayThoseThatEndedStay() {
+        ProphetLiable x = Check.quiet(2);
+        x.prophet(50, 0);
+        x.foretell(0, true, 1, 1, 0);
+        x.foretell(0, true, 2, 1, 1);
+        x.bring(0, 0);
+        due("day(2)", x.day(2), 2);
+        x.spoil(0, 0);
+        x.bring(0, 1);
+        due("day(3)", x.day(3), 0);
+        due("word(0, 5)", x.word(0, 5), 1);
+        due("word(1, 5)", x.word(1, 5), 2);
+        due("of(0, 0)", x.of(0, 0), 41);
+        due("of(0, 1)", x.of(0, 1), 1);
+        Check.due("the BOOK", book(x), "0 0 0 1; 1 1 1 10; ");
+    }
+
     /** "FAME of whose it is is more by renown (99 at most)". */
     static void partIDayFame99AtMost() {
         ProphetLiable x = Check.quiet(2);
@@ -942,28 +978,50 @@ public final class TermsBoundaryTest {
         due("book(29, 3)", x.book(29, 3), -2);
     }
 
-    /** One that is FORETOLD behind undo() is open, whatever became of the one that had its number. */
-    static void partIStepsOneForetoldAnewIsOpen() {
+    /** Those FORETOLD behind undo() are open, whatever became of the ones that had their numbers. */
+    static void partIStepsThoseForetoldAnewAreOpen() {
         ProphetLiable x = Check.quiet(2);
-        x.prophet(50, 0);
+        x.prophet(999, 0);
         x.bring(0, 0);
-        x.foretell(0, true, 1, 9, 7);
-        x.foretell(0, true, 2, 1, 7);
-        x.day(2);
-        due("word(0, 5)", x.word(0, 5), 1);
-        due("word(1, 5)", x.word(1, 5), 2);
-        for (int i = 0; i < 4; i++) {
+        for (int i = 0; i < 12; i++) {
+            x.foretell(0, true, 1 + i % 2, 1, 7);
+        }
+        due("day(2)", x.day(2), 12);
+        for (int i = 0; i < 14; i++) {
             x.undo();
         }
         due("is(3)", x.is(3), 0);
-        due("foretell", x.foretell(0, false, 1, 3, 0), 0);
-        due("foretell", x.foretell(0, false, 2, 4, 0), 1);
-        for (int i = 0; i < 2; i++) {
+        for (int i = 0; i < 12; i++) {
+            due("foretell", x.foretell(0, false, 2, 3 + i, 0), i);
             due("word(" + i + ", 1)", x.word(i, 1), 0);
             due("word(" + i + ", 3)", x.word(i, 3), 3 + i);
             due("word(" + i + ", 4)", x.word(i, 4), 0);
             due("word(" + i + ", 5)", x.word(i, 5), 0);
         }
+    }
+
+    /** What is none of "FACTS, PROPHETS, PROPHECIES .., DAY, X, BOOK" isn't taken back. */
+    static void partIStepsTheRestStays() {
+        ProphetLiable x = Check.quiet(2);
+        x.prophet(9, 0);
+        x.foretell(0, true, 1, 9, 0);
+        x.day(1);
+        Check.rule(x, "comes 0;dues 5;");
+        x.offer(true, 1, 3, 4);
+        x.heard(0, true);
+        x.owed(0, 5);
+        x.image();
+        x.feed(1, 2, 3, 4, 5);
+        due("undo()", x.undo(), 1);
+        due("undo()", x.undo(), 0);
+        int[] about = {2, 1, 1, 0, 0, 1, 1, 1, 20};
+        for (int what = 0; what <= 8; what++) {
+            due("about(" + what + ")", x.about(what), about[what]);
+        }
+        due("worst(1)", x.worst(1), 4);
+        due("fault(0)", x.fault(0), 0);
+        due("back(): THE IMAGE, too", x.back(), 1);
+        due("is(3)", x.is(3), 1);
     }
 
     /** "those told since are as told": FACTS are there, and not SO. */
